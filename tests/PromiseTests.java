@@ -513,7 +513,7 @@ public final class PromiseTests {
         due("big letters are signs", read(x, "Gas h"), -100);
         due("another blank", read(x, "gas\th"), -103);
         String[][] faults = {
-            {"dra 0 h", "0"}, {"  draws 0 h", "2"}, {"gash", "0"}, {"5", "0"}, {"(", "0"}, {" ", "1"}, {"gas", "3"}, {"gas  ", "5"},
+            {"gasz h", "0"}, {"zgas h", "0"}, {"dra 0 h", "0"}, {"  draws 0 h", "2"}, {"gash", "0"}, {"5", "0"}, {"(", "0"}, {" ", "1"}, {"gas", "3"}, {"gas  ", "5"},
             {"draw", "4"}, {"draw ", "5"}, {"draw 6 h", "5"}, {"draw 12345 h", "5"}, {"draw 00006 h", "5"}, {"draw 0006 h", "5"}, {"draw0 h", "4"},
             {"draw h 0", "5"}, {"draw (0) h", "5"}, {"draw 0", "6"}, {"draw 0h", "6"}, {"draw 0 12345", "7"}, {"draw 0 c", "7"}, {"draw 0 i", "7"},
             {"draw 0 hh", "7"}, {"draw 0 h h", "9"}, {"draw 0 h5", "8"}, {"draw 0 5h", "8"}, {"draw 0 5 5", "9"}, {"gas b", "4"}, {"gas s", "4"},
