@@ -69,7 +69,7 @@ public final class BurdenHouse {
         if (!house.bins.has(bin) || !isWithin(t, 0, 999) || !isWithin(what, BULK, LIME)) {
             return BAD;
         }
-        return house.bins.amountOf(bin, t, what);
+        return Stuff.amountOf(house.bins.kind[bin], house.bins.share[bin], t, what);
     }
 
     public int as(int bin, int kind) {
@@ -708,14 +708,9 @@ public final class BurdenHouse {
         static int ironOf(int kind, int share, int t) {
             switch (kind) {
                 case ORE: return t * share / 100;
-                case SINTER: return sinterIronOf(share, t);
+                case SINTER: return t * share / 100 < t / 20 ? 0 : t * share / 100 - t / 20;
                 default: return 0;
             }
-        }
-
-        static int sinterIronOf(int share, int t) {
-            int iron = t * share / 100 - t / 20;
-            return iron < 0 ? 0 : iron;
         }
 
         static int acidOf(int kind, int share, int t) {
@@ -796,10 +791,6 @@ public final class BurdenHouse {
             turns[bin] = 22222;
             count++;
             return bin;
-        }
-
-        int amountOf(int bin, int t, int what) {
-            return Stuff.amountOf(kind[bin], share[bin], t, what);
         }
 
         boolean isTold(int bin) {
@@ -1040,14 +1031,16 @@ public final class BurdenHouse {
             }
             Layer layer = layers[count];
             count++;
+            int kind = bins.kind[bin];
+            int share = bins.share[bin];
             layer.bin = bin;
             layer.hour = hour;
             layer.tons = t;
-            layer.holds = Stuff.holdsOf(bins.kind[bin]);
-            layer.iron = bins.amountOf(bin, t, IRON);
-            layer.acid = bins.amountOf(bin, t, ACID);
-            layer.lime = bins.amountOf(bin, t, LIME);
-            layer.whole = bins.amountOf(bin, t, BULK);
+            layer.holds = Stuff.holdsOf(kind);
+            layer.iron = Stuff.ironOf(kind, share, t);
+            layer.acid = Stuff.acidOf(kind, share, t);
+            layer.lime = Stuff.limeOf(kind, share, t);
+            layer.whole = Stuff.bulkOf(kind, t);
             layer.left = layer.whole;
             int digits = bins.turns[bin];
             for (int r = RINGS - 1; r >= 0; r--) {
