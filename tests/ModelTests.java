@@ -6,7 +6,9 @@ import java.util.Random;
 
 /** Random runs of calls, each answer held against a second, plain working out of the document (kept apart on purpose). */
 public final class ModelTests {
-    private static final int RUNS = 1500, CALLS = 500;
+    private static final int RUNS = 3000;
+    /** An object is used for at most 512 calls; the last step may take 62 of them. */
+    private static final int CALLS = 512 - 62;
     private static int wrong = 0;
 
     public static void main(String[] args) {
@@ -29,7 +31,7 @@ public final class ModelTests {
     private static void playRun(int run, int[] refusals) {
         Caller caller = new Caller(new Random(7919L * run + 13));
         StringBuilder log = new StringBuilder();
-        for (int i = 0; i < CALLS; i++) {
+        while (caller.made <= CALLS) {
             caller.next();
             log.append(caller.call).append(" = ").append(caller.got).append('\n');
             if (caller.got != caller.due) {
@@ -56,6 +58,8 @@ public final class ModelTests {
         final BurdenHouse x = new BurdenHouse();
         final Model m = new Model();
         final int daring;
+        /** How many calls were made on each. */
+        int made = 0;
         String call;
         int got;
         int due;
@@ -76,6 +80,7 @@ public final class ModelTests {
         }
 
         void set(String name, int got, int due, int... arguments) {
+            made++;
             this.call = name + Arrays.toString(arguments);
             this.got = got;
             this.due = due;
@@ -147,9 +152,11 @@ public final class ModelTests {
                     int b = i + j < text.length() ? text.charAt(i + j) : 0;
                     three[j / 4] |= b << (24 - 8 * (j % 4));
                 }
+                made++;
                 x.feed(three[0], three[1], three[2]);
                 m.feed(three[0], three[1], three[2]);
             }
+            made += 2;
             x.trim(text.length());
             m.trim(text.length());
             set("text \"" + text + "\"", x.text(), m.text());
@@ -210,6 +217,7 @@ public final class ModelTests {
                 due.add(0);
             }
             for (int v : due) {
+                made++;
                 x.tell(v);
                 m.tell(v);
             }
