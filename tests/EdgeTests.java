@@ -1,3 +1,5 @@
+import java.util.Arrays;
+
 /** A test for each sentence of the promises that names an edge or a refusal. Answers worked out by hand. */
 public final class EdgeTests {
     private static final int BAD = BurdenHouse.BAD, NO = BurdenHouse.NO, FULL = BurdenHouse.FULL, NONE = BurdenHouse.NONE,
@@ -328,7 +330,7 @@ public final class EdgeTests {
         BurdenHouse y = new BurdenHouse();
         y.feed(0x67617320, 0x312b3220, 0x20202020);
         Sentences.due("text", y.text(), 0);
-        Sentences.due("gas 1+2", java.util.Arrays.stream(Sentences.rings(y, 2)).sum(), 3);
+        Sentences.due("gas 1+2", Arrays.stream(Sentences.rings(y, 2)).sum(), 3);
         y.feed(0x67617320, 0xb5202020, 0x20202020);
         Sentences.due("the highest bit of a byte, too", y.text(), -104);
     }
@@ -375,7 +377,7 @@ public final class EdgeTests {
         Sentences.due("the 13th", Sentences.read(x, "gas 99"), FULL);
         Sentences.due("as before", x.count(3), 12);
         Sentences.due("as before", x.why(1, 0), 11);
-        Sentences.due("as before", java.util.Arrays.stream(Sentences.rings(x, 2)).sum(), 12);
+        Sentences.due("as before", Arrays.stream(Sentences.rings(x, 2)).sum(), 12);
     }
 
     @Sentences.Says(at = "Promise 21", words = "1 its BIN (NONE)")
@@ -605,11 +607,11 @@ public final class EdgeTests {
         Sentences.row("all 0", Sentences.places(x, 0, 4), 0, 0, 0, INDEX);
         Sentences.due("fewer", x.sheet(0, 0, 1), 1);
         Sentences.due("more again", x.sheet(0, 0, 24), 24);
-        Sentences.due("all 0", java.util.Arrays.stream(Sentences.places(x, 0, 24)).filter(v -> v == 0).count(), 24);
+        Sentences.due("all 0", Arrays.stream(Sentences.places(x, 0, 24)).filter(v -> v == 0).count(), 24);
         x.mark(0, 23, 7);
         Sentences.due("fewer", x.sheet(0, 0, 1), 1);
         Sentences.due("more again", x.sheet(0, 0, 24), 24);
-        Sentences.due("all 0", java.util.Arrays.stream(Sentences.places(x, 0, 24)).filter(v -> v == 0).count(), 24);
+        Sentences.due("all 0", Arrays.stream(Sentences.places(x, 0, 24)).filter(v -> v == 0).count(), 24);
         for (int n : new int[] {-1, 0, 24, 25, LEAST, MOST}) {
             x.sheet(0, 0, 1);
             Sentences.due("missing, any n", x.sheet(0, -1, n), 0);

@@ -1,3 +1,5 @@
+import java.util.Arrays;
+
 /** A test for each sentence of the document's terms (sections 1 to 5) that names an edge. Answers worked out by hand. */
 public final class TermsTests {
     private static final int BAD = BurdenHouse.BAD, NO = BurdenHouse.NO, FULL = BurdenHouse.FULL, NONE = BurdenHouse.NONE,
@@ -37,7 +39,7 @@ public final class TermsTests {
             BurdenHouse x = Sentences.withBin(kind, 0, 7);
             for (int asked = 0; asked < 6; asked++) {
                 int wanted = asked;
-                boolean is = java.util.Arrays.stream(above[kind]).anyMatch(k -> k == wanted);
+                boolean is = Arrays.stream(above[kind]).anyMatch(k -> k == wanted);
                 Sentences.due("kind " + kind + " as " + asked, x.as(0, asked), is ? 7 : KIND);
             }
         }
@@ -93,7 +95,7 @@ public final class TermsTests {
     @Sentences.Says(at = "Section 1", words = "(IRON is 0 at least; a KIND")
     static void s1IronIsNotBelow0() {
         amounts(SINTER, 0, IRON, 0, 0, 19, 0, 20, 0, 999, 0);
-        amounts(SINTER, 4, IRON, 20, 0, 999, 0);
+        amounts(SINTER, 4, IRON, 20, 0, 99, 0, 999, 0);
         amounts(SINTER, 5, IRON, 19, 0, 999, 0);
         amounts(SINTER, 6, IRON, 999, 10);
     }
@@ -174,6 +176,21 @@ public final class TermsTests {
         Sentences.due("no layer 24", x.layer(24, 2), BAD);
     }
 
+    @Sentences.Says(at = "Section 2", words = "each of a BIN's STUFF (as it was), of the HOUR in which it was charged, with t tons")
+    static void s2LayerAsItWas() {
+        BurdenHouse x = Sentences.withStuffInRing(4);
+        x.rule(1, 0);
+        x.run(7);
+        x.charge(0, 30);
+        x.run(5);
+        x.turns(0, 90000);
+        x.charge(0, 8);
+        x.fill(0, 20);
+        x.run(2);
+        Sentences.row("the lowest", Sentences.answers(4, what -> x.layer(0, what)), 0, 7, 30, 23);
+        Sentences.row("on top", Sentences.answers(4, what -> x.layer(1, what)), 0, 12, 8, 6);
+    }
+
     @Sentences.Says(at = "Section 2", words = "with BULK in each RING (0 and more)")
     static void s2BulkIs0OrMore() {
         BurdenHouse x = Sentences.withStuffInRing(4);
@@ -224,7 +241,7 @@ public final class TermsTests {
         Sentences.due("all 9", y.turns(0, 99999), 22222);
     }
 
-    @Sentences.Says(at = "Section 2", words = "what is left goes one by one to those with the greatest rests, of like ones the lesser RING")
+    @Sentences.Says(at = "Section 2", words = {"each RING has the whole part of BULK times its TURNS by all,", "what is left goes one by one to those with the greatest rests, of like ones the lesser RING"})
     static void s2PartsOfCharge() {
         BurdenHouse x = Sentences.withBin(STUFF, 0, 9999);
         x.rule(0, 999);
@@ -350,9 +367,17 @@ public final class TermsTests {
         Sentences.row("resistances", Sentences.rings(y, 1), 46, 26, 81, 26, 106);
         y.rule(1, 3);
         Sentences.row("gas of 3", Sentences.rings(y, 2), 0, 1, 0, 2, 0);
+        // weights 6250, 3488, 9803, 13725, 6617 of 39883: .552, .369, .548, .787, .745 of 999; by 99999 or 100001 ring 2 is before ring 0
+        BurdenHouse z = Sentences.withBin(SMALL, 0, 9999);
+        z.rule(0, 999);
+        z.turns(0, 15338);
+        z.charge(0, 67);
+        Sentences.row("resistances", Sentences.rings(z, 1), 16, 86, 51, 51, 136);
+        z.rule(1, 999);
+        Sentences.row("gas of 999", Sentences.rings(z, 2), 157, 87, 245, 344, 166);
     }
 
-    @Sentences.Says(at = "Section 3", words = "whole parts, what is left one by one by the greatest rests, of like ones the lesser RING")
+    @Sentences.Says(at = "Section 3", words = "GAS is parted among RINGS by WEIGHTS: whole parts, what is left one by one by the greatest rests, of like ones the lesser RING")
     static void s3PartsOfGas() {
         BurdenHouse x = Sentences.withLikeWeights();
         x.rule(1, 7);
@@ -379,9 +404,27 @@ public final class TermsTests {
         }
         Sentences.due("nearly so: ring 0 weighs 1", 100000 / x.ring(0, 1), 1);
         x.rule(1, 999);
-        Sentences.due("all gas is parted", java.util.Arrays.stream(Sentences.rings(x, 2)).sum(), 999);
+        Sentences.due("all gas is parted", Arrays.stream(Sentences.rings(x, 2)).sum(), 999);
         x.rule(1, 0);
         Sentences.row("nothing is parted", Sentences.rings(x, 2), 0, 0, 0, 0, 0);
+    }
+
+    @Sentences.Says(at = "Section 3", words = "An HOUR, in this order: (a) GAS is found, and parted;")
+    static void s3GasIsFoundFirst() {
+        // ORE: BULK 6 in each ring, IRON 39: 6 by the first hour; gas is by the IRON ahead of each hour, and parted once
+        BurdenHouse x = Sentences.withBin(ORE, 9900, 99);
+        x.rule(0, 999);
+        x.turns(0, 11111);
+        x.charge(0, 40);
+        Sentences.read(x, "gas i*10");
+        x.run(1);
+        Sentences.due("by no IRON: one of each ring", x.count(2), 25);
+        Sentences.due("iron", x.hearth(0), 6);
+        // resistances 16: weights 6250, 18750, 31250, 43750, 56250: 2.4, 7.2, 12, 16.8, 21.6 of 60
+        Sentences.row("parts of 60", Sentences.rings(x, 2), 2, 7, 12, 17, 22);
+        x.run(1);
+        Sentences.row("1, 2, 4, 5, 5 of 5 are gone", Sentences.bulk(x, 0), 4, 3, 1, 0, 0);
+        Sentences.due("the next hour", x.count(6), 2);
     }
 
     @Sentences.Says(at = "Section 3", words = "EATEN of a RING: its part by 4, and 1.")
@@ -390,7 +433,7 @@ public final class TermsTests {
         int[][] gasAndEaten = {{0, 1, 1, 1, 1, 1}, {15, 1, 1, 1, 1, 1}, {16, 2, 1, 1, 1, 1}, {20, 2, 2, 2, 2, 2}, {35, 2, 2, 2, 2, 2}, {39, 3, 3, 3, 3, 2}, {40, 3, 3, 3, 3, 3}};
         for (int[] row : gasAndEaten) {
             x.rule(1, row[0]);
-            Sentences.row("eaten by gas " + row[0], Sentences.rings(x, 3), java.util.Arrays.copyOfRange(row, 1, 6));
+            Sentences.row("eaten by gas " + row[0], Sentences.rings(x, 3), Arrays.copyOfRange(row, 1, 6));
         }
     }
 
@@ -416,7 +459,8 @@ public final class TermsTests {
         Sentences.row("tops", Sentences.rings(x, 0), 0, 0, 0, 0, 0);
     }
 
-    @Sentences.Says(at = "Section 3", words = "IRON times what went of all its BULK up to now, by all its BULK, cut, less the same ahead of this HOUR and RING")
+    @Sentences.Says(at = "Section 3", words = {"what goes of a LAYER brings as much of its IRON, ACID, LIME to THE HEARTH as this is of all its BULK as it was charged",
+        "IRON times what went of all its BULK up to now, by all its BULK, cut, less the same ahead of this HOUR and RING"})
     static void s3BroughtIsCut() {
         BurdenHouse x = Sentences.withBin(ORE, 9900, 9999);
         x.rule(0, 999);
@@ -538,7 +582,7 @@ public final class TermsTests {
         }
         Sentences.due("the 13th", Sentences.read(x, "gas 1"), FULL);
         Sentences.due("count", x.count(3), 12);
-        Sentences.due("gas by the 12th", java.util.Arrays.stream(Sentences.rings(x, 2)).sum(), 11);
+        Sentences.due("gas by the 12th", Arrays.stream(Sentences.rings(x, 2)).sum(), 11);
     }
 
     @Sentences.Says(at = "Section 4", words = "THE TAPE (96 bytes at most")
@@ -619,6 +663,56 @@ public final class TermsTests {
         }
     }
 
+    @Sentences.Says(at = "Section 4", words = "h the HOUR; of draw t the greatest TOP, b BASIC, s TONS of the BIN; of gas t, i IRON in THE HEARTH; of late c how many fillings there were.")
+    static void s4NamesStandFor() {
+        BurdenHouse x = withTopOf200();
+        Sentences.due("gas by h", Sentences.gas(x, "h"), 60);
+        Sentences.due("gas by t", Sentences.gas(x, "t"), 200);
+        Sentences.due("gas by i", Sentences.gas(x, "i"), 90);
+        String[] draws = {"h", "t", "b", "s-400"};
+        int[] due = {60, 200, 214, 298};
+        for (int i = 0; i < draws.length; i++) {
+            BurdenHouse y = withTopOf200();
+            Sentences.read(y, "draw 3 " + draws[i]);
+            Sentences.due("round of " + draws[i], y.round(), 1);
+            Sentences.due("tons by " + draws[i], y.layer(1, 2), due[i]);
+        }
+        BurdenHouse z = withTopOf200();
+        z.ladle(50);
+        Sentences.read(z, "late h*10+c");
+        Sentences.due("late by h and c", z.pour(60, 0), 60 + 602);
+    }
+
+    /** Hour 60, a hearth of 90 IRON, BASIC 214, and 2 of 700 tons of bin 3 in ring 0. */
+    private static BurdenHouse withTopOf200() {
+        BurdenHouse x = Sentences.withHearth();
+        x.rule(0, 999);
+        x.bin(STUFF, 0, 700);
+        x.turns(3, 90000);
+        x.charge(3, 2);
+        Sentences.row("tops", Sentences.rings(x, 0), 200, 0, 0, 0, 0);
+        return x;
+    }
+
+    @Sentences.Says(at = "Section 4", words = "E, the loosest first: OR: AND { | AND };")
+    static void s4LoosestFirst() {
+        Sentences.gives(14, "2+3*4");
+        Sentences.gives(20, "(2+3)*4");
+        Sentences.gives(12, "20-5-3");
+        Sentences.gives(7, "100/7/2");
+        Sentences.gives(8, "2*3/2+5");
+        Sentences.gives(6, "9-12/4");
+        Sentences.gives(1, "1+1<3");
+        Sentences.gives(1, "2<1+3&5");
+        Sentences.gives(1, "1|1&0");
+        Sentences.gives(1, "0&0|1");
+        Sentences.gives(0, "(1|1)&0");
+        Sentences.gives(5, "!0+4");
+        Sentences.gives(0, "!(0+4)");
+        Sentences.gives(6, "2*!0*3");
+        Sentences.gives(1, "0|3|0&2");
+    }
+
     @Sentences.Says(at = "Section 4", words = "AND: TEST { & TEST }; TEST: SUM [ (< | = | >) SUM ]; SUM: TERM")
     static void s4OneTestOnly() {
         Sentences.faultAt(7, "gas 1<2<3");
@@ -689,6 +783,11 @@ public final class TermsTests {
         Sentences.faultAt(0, "5");
         Sentences.faultAt(2, "  (");
         Sentences.faultAt(0, "drawgas h");
+        Sentences.faultAt(0, "xas h");
+        Sentences.faultAt(0, "gax h");
+        Sentences.faultAt(0, "xraw 0 h");
+        Sentences.faultAt(0, "lat h");
+        Sentences.faultAt(0, "xate c");
         Sentences.faultAt(4, "gas )");
         Sentences.faultAt(5, "gas ()");
         Sentences.faultAt(4, "gas +1");
@@ -710,6 +809,10 @@ public final class TermsTests {
         Sentences.isText("gas (((((((" + "(1)+(2))+(3)" + "))))))");
         Sentences.faultAt(16, "gas (((((((1+(1+(1)))))))))");
         Sentences.faultAt(13, "late ((((((((((c");
+        BurdenHouse x = new BurdenHouse();
+        Sentences.due("eight are open at the end", Sentences.read(x, "gas ((((((((h"), -113);
+        Sentences.due("none of them is open within another text", Sentences.read(x, "gas ((((((((h))))))))"), 0);
+        Sentences.due("nor can it be closed there", Sentences.read(x, "gas h)"), -105);
     }
 
     @Sentences.Says(at = "Section 4", words = "the ninth ! likewise (open till its PIECE ends), each by itself);")
@@ -726,6 +829,11 @@ public final class TermsTests {
         Sentences.isText("gas !(!!!!!!!h+!!!!!!!1)");
         Sentences.faultAt(13, "gas !(!!!!!!!!1)");
         Sentences.faultAt(22, "gas !(!!!!!!!1+!!!!!!!!1)");
+        BurdenHouse x = new BurdenHouse();
+        Sentences.due("eight are open at the end", Sentences.read(x, "gas !!!!!!!!"), -112);
+        Sentences.due("none of them is open within another text", Sentences.read(x, "gas !!!!!!!!h"), 0);
+        Sentences.due("three are open at the end", Sentences.read(x, "gas !!!"), -107);
+        Sentences.due("nor do they turn another text", Sentences.gas(x, "7"), 7);
         Sentences.gives(1, "!!!!!!!!7");
         Sentences.gives(0, "!!!!!!!7");
     }
@@ -767,9 +875,10 @@ public final class TermsTests {
     static void s4Truth() {
         Sentences.gives(6, "(1<2)+(2<1)+(2<2)+(2=2)*2+(2=3)+(3>2)*3+(2>2)+(2>3)");
         Sentences.gives(111, "(5&7)+((0-5)&(0-7))*10+(2|0)*100");
-        Sentences.gives(0, "(0&7)+(7&0)+(0&0)+(0|0)");
+        Sentences.gives(9, "9+(0&7)+(7&0)+(0&0)");
+        Sentences.gives(9, "9+(0|0)");
         Sentences.gives(111, "(0|7)+((0-7)|0)*10+(7|7)*100");
-        Sentences.gives(0, "!5+!(0-5)");
+        Sentences.gives(9, "9+!5+!(0-5)");
         Sentences.gives(1, "!0");
         Sentences.gives(0, "0&1/0");
         Sentences.gives(1, "1|1/0");
@@ -788,7 +897,7 @@ public final class TermsTests {
         Sentences.due("bin 0", x.why(0, 0), NONE);
         Sentences.due("gas", x.why(1, 0), 3);
         Sentences.due("late", x.why(2, 0), 5);
-        Sentences.due("gas by the last", java.util.Arrays.stream(Sentences.rings(x, 2)).sum(), 2);
+        Sentences.due("gas by the last", Arrays.stream(Sentences.rings(x, 2)).sum(), 2);
     }
 
     @Sentences.Says(at = "Section 4", words = "what draw gives at its turn, held within 0 .. 999, and its TONS at most,")
@@ -888,7 +997,7 @@ public final class TermsTests {
             BurdenHouse x = new BurdenHouse();
             x.sheet(0, sort, places.length);
             Sentences.marks(x, 0, places);
-            Sentences.due("hangs of " + java.util.Arrays.toString(places), x.sound(0, 0, 0), due);
+            Sentences.due("hangs of " + Arrays.toString(places), x.sound(0, 0, 0), due);
         }
     }
 
@@ -969,6 +1078,23 @@ public final class TermsTests {
         Sentences.due("ten tons have none", y.of(0, 10, IRON), 0);
     }
 
+    @Sentences.Says(at = "Section 5", words = "that with the least PRICE together (PRICE times tons)")
+    static void s5BurdenOfLeastPrice() {
+        // IRON 5 and 9 of ten tons, at 10 and 17 a ton
+        BurdenHouse x = Sentences.withBin(ORE, 5010, 0);
+        x.bin(ORE, 9017, 0);
+        x.choose(0);
+        x.choose(1);
+        int[][] burdens = {{0, 0, 0, 0}, {5, 100, 1, 0}, {6, 170, 0, 1}, {9, 170, 0, 1}, {10, 200, 2, 0}, {14, 270, 1, 1}, {19, 370, 2, 1}, {81, 1530, 0, 9}, {126, 2430, 9, 9}};
+        for (int[] row : burdens) {
+            Sentences.row("burden of " + row[0], Sentences.answers(3, i -> x.burden(row[0], 999, i - 1)), row[1], row[2], row[3]);
+        }
+        // for nothing: u of it does not matter to PRICE
+        BurdenHouse y = Sentences.withBin(ORE, 5000, 0);
+        y.choose(0);
+        Sentences.row("for nothing", Sentences.answers(2, i -> y.burden(11, 999, i - 1)), 0, 3);
+    }
+
     @Sentences.Says(at = "Section 5", words = "of several the first (by the order told, the least first)")
     static void s5BurdenOfSeveral() {
         BurdenHouse x = Sentences.withBin(ORE, 5010, 0);
@@ -1022,7 +1148,7 @@ public final class TermsTests {
         Sentences.due("back", y.backAt(0), 10060);
     }
 
-    @Sentences.Says(at = "Section 5", words = "always the one with the least minute of back (of several the least number), at its minute or when the one ahead is full")
+    @Sentences.Says(at = "Section 5", words = "ladles are filled one behind the other, always the one with the least minute of back (of several the least number), at its minute or when the one ahead is full")
     static void s5LeastMinute() {
         BurdenHouse x = Sentences.withHearth();
         x.ladle(5);
@@ -1077,7 +1203,7 @@ public final class TermsTests {
         Sentences.due("without a text", y.pour(12, 0), 120);
     }
 
-    @Sentences.Says(at = "Section 5", words = "a ladle that was filled is back AWAY minutes (1 .. 999; 60 at first) behind its end")
+    @Sentences.Says(at = "Section 5", words = {"filling takes as many minutes as tons;", "a ladle that was filled is back AWAY minutes (1 .. 999; 60 at first) behind its end"})
     static void s5Away() {
         BurdenHouse x = Sentences.withHearth();
         x.ladle(5);
@@ -1251,6 +1377,8 @@ public final class TermsTests {
         x.ladle(9);
         Sentences.read(x, "gas 40");
         x.charge(0, 40);
+        x.charge(1, 8);
+        int[] resistances = Sentences.rings(x, 1);
         Sentences.due("keep", x.keep(), 60);
         for (int i = 0; i < 3; i++) {
             x.bin(STUFF, 0, 0);
@@ -1265,13 +1393,18 @@ public final class TermsTests {
             x.ladle(8);
             x.pour(9, 70);
             Sentences.read(x, "gas 900");
-            x.charge(2, 30);
-            x.run(5);
+            x.run(60);
+            Sentences.due("all is eaten", x.count(1), 0);
+            x.charge(2, 300);
+            x.charge(2, 20);
+            x.run(1);
             Sentences.due("back", x.back(), 60);
-            Sentences.row("counts", Sentences.answers(7, x::count), 3, 1, 30, 1, 1, 1, 60);
+            Sentences.row("counts", Sentences.answers(7, x::count), 3, 2, 38, 1, 1, 1, 60);
             Sentences.row("hearth", Sentences.hearth(x), 90, 35, 75, 214);
             Sentences.row("the bin", Sentences.answers(6, w -> x.told(0, w)), 1, 90, 10, 9859, 13579, 3);
-            Sentences.row("the layer", Sentences.answers(4, w -> x.layer(0, w)), 0, 60, 40, 30);
+            Sentences.row("the lowest layer", Sentences.answers(4, w -> x.layer(0, w)), 0, 60, 40, 30);
+            Sentences.row("the layer on top", Sentences.answers(4, w -> x.layer(1, w)), 1, 60, 8, 8);
+            Sentences.row("the resistances", Sentences.rings(x, 1), resistances);
             Sentences.due("the ladle", x.backAt(0), 0);
             Sentences.due("the told bin", x.choose(1), NO);
             Sentences.due("the text that counts", x.why(1, 0), 0);
@@ -1279,6 +1412,9 @@ public final class TermsTests {
             Sentences.due("gas", x.rule(1, 999), 999);
             Sentences.due("away", x.rule(2, 60), 60);
         }
+        // ORE: IRON 36, ACID 4 + 4/4; FLUX: LIME 6
+        x.run(60);
+        Sentences.row("what the layers bring", Sentences.hearth(x), 90 + 36, 35 + 5, 75 + 6, 202);
     }
 
     @Sentences.Says(at = "Section 5", words = "behind each of n HOURS from THE IMAGE on (nothing being charged; above 999, too)")
@@ -1287,8 +1423,8 @@ public final class TermsTests {
         Sentences.runTo(x, 998);
         x.rule(1, 0);
         x.charge(0, 9);
-        Sentences.read(x, "draw 0 5");
         Sentences.read(x, "gas (h>999)*999");
+        Sentences.read(x, "draw 0 5");
         x.keep();
         x.run(1);
         x.charge(0, 50);
