@@ -276,6 +276,10 @@ public final class EdgeTests {
         Sentences.row("as before", Sentences.hearth(x), 90, 35, 75, 214);
         Sentences.due("1", x.cast(1), 89);
         Sentences.due("9999 may be told", x.cast(9999), NO);
+        BurdenHouse y = Sentences.withMuchIron();
+        int iron = y.hearth(0);
+        Sentences.due("10000", y.cast(10000), BAD);
+        Sentences.due("9999", y.cast(9999), iron - 9999);
     }
 
     @Sentences.Says(at = "Promise 16", words = "NO: there is less.")
@@ -283,7 +287,9 @@ public final class EdgeTests {
         BurdenHouse x = Sentences.withHearth();
         Sentences.due("91 of 90", x.cast(91), NO);
         Sentences.row("as before", Sentences.hearth(x), 90, 35, 75, 214);
-        Sentences.due("90 of 90", x.cast(90), 0);
+        Sentences.due("89 of 90", x.cast(89), 1);
+        Sentences.due("2 of 1", x.cast(2), NO);
+        Sentences.due("1 of 1", x.cast(1), 0);
         Sentences.due("1 of 0", x.cast(1), NO);
         Sentences.due("of a new object", new BurdenHouse().cast(1), NO);
     }
@@ -581,6 +587,14 @@ public final class EdgeTests {
         Sentences.due("1 from 0 on", x.pour(1, 0), 0);
         Sentences.due("1 from 9999 on", x.pour(1, 9999), 0);
         Sentences.due("back", x.backAt(0), 10060);
+        // eleven fillings, 60 minutes between them
+        BurdenHouse y = Sentences.withMuchIron();
+        int iron = y.hearth(0);
+        y.ladle(999);
+        Sentences.due("10000", y.pour(10000, 9999), BAD);
+        Sentences.due("9999 from 9999 on", y.pour(9999, 9999), 600);
+        Sentences.due("back", y.backAt(0), 9999 + 9999 + 600 + 60);
+        Sentences.due("iron", y.hearth(0), iron - 9999);
     }
 
     @Sentences.Says(at = "Promise 28", words = "NO: there are no LADLES, or less IRON.")

@@ -1,12 +1,15 @@
 import java.lang.management.ManagementFactory;
 import java.lang.reflect.Constructor;
 import java.lang.reflect.Field;
+import java.lang.reflect.InvocationTargetException;
 import java.lang.reflect.Method;
 import java.lang.reflect.Modifier;
 import java.nio.charset.StandardCharsets;
 import java.nio.file.Files;
 import java.nio.file.Path;
 import java.util.Arrays;
+import java.util.Comparator;
+import java.util.Random;
 import java.util.Set;
 import java.util.TreeSet;
 import java.util.regex.Matcher;
@@ -21,6 +24,7 @@ public final class LanguageTests {
         nested();
         source();
         room();
+        neverThrows();
         System.out.println(wrong == 0 ? "all is as due" : wrong + " faults");
         if (wrong != 0) {
             System.exit(1);
@@ -155,6 +159,32 @@ public final class LanguageTests {
         due("calls answer", answered != 0, true);
         due("a new object is small: " + (made - start), made - start < 100000, true);
         due("calls make nothing: " + (after - made), after - made < 10000, true);
+    }
+
+    /** Any arguments in any state, far more calls than an object is used for: no call throws, each ends. */
+    private static void neverThrows() throws Exception {
+        int[] values = {Integer.MIN_VALUE, Integer.MIN_VALUE + 1, BurdenHouse.NONE, -100000, -99999, -2, -1, 0, 0, 1, 1, 2, 2, 3, 3, 4, 4, 5, 6, 8, 9, 12,
+            20, 23, 24, 25, 30, 31, 59, 60, 61, 96, 97, 100, 999, 1000, 9999, 10000, 22222, 99999, 100000, 999999, 1000000,
+            0x64726177, 0x20302068, 0x67617320, 0x68202020, 0x28282828, 0x21212121, 0x20202020, Integer.MAX_VALUE};
+        Method[] methods = Arrays.stream(BurdenHouse.class.getDeclaredMethods()).filter(m -> Modifier.isPublic(m.getModifiers())).toArray(Method[]::new);
+        Arrays.sort(methods, Comparator.comparing(Method::getName));
+        Random random = new Random(512);
+        for (int object = 0; object < 60; object++) {
+            BurdenHouse x = new BurdenHouse();
+            for (int call = 0; call < 4000; call++) {
+                Method method = methods[random.nextInt(methods.length)];
+                Object[] arguments = new Object[method.getParameterCount()];
+                for (int i = 0; i < arguments.length; i++) {
+                    arguments[i] = values[random.nextInt(values.length)];
+                }
+                try {
+                    method.invoke(x, arguments);
+                } catch (InvocationTargetException thrown) {
+                    due(method.getName() + Arrays.toString(arguments), thrown.getCause(), "an answer");
+                    return;
+                }
+            }
+        }
     }
 
     private static int dearCalls(BurdenHouse x, int times) {

@@ -526,6 +526,10 @@ public final class TermsTests {
         Sentences.due("cast of 1", x.cast(1), 89);
         Sentences.due("cast of all", x.cast(89), 0);
         Sentences.row("hearth", Sentences.hearth(x), 0, 0, 0, 0);
+        BurdenHouse y = Sentences.withHearth();
+        Sentences.due("all but 1", y.cast(89), 1);
+        Sentences.due("the last 1", y.cast(1), 0);
+        Sentences.row("hearth", Sentences.hearth(y), 0, 0, 0, 0);
     }
 
     @Sentences.Says(at = "Section 3", words = "and ACID and LIME by as much as n is of IRON (each by IRON, cut)")
@@ -1138,6 +1142,11 @@ public final class TermsTests {
         Sentences.due("ladle", x.ladle(1), 0);
         Sentences.due("ladle", x.ladle(999), 1);
         Sentences.row("back at first", Sentences.answers(2, x::backAt), 0, 0);
+        BurdenHouse z = Sentences.withMuchIron();
+        z.ladle(1);
+        z.rule(2, 999);
+        Sentences.read(z, "late c");
+        Sentences.due("9999 fillings of 1", z.pour(9999, 0), 9998 * 999 + 999);
         Sentences.due("pour", x.pour(90, 0), 0);
         Sentences.row("1 and 89", Sentences.answers(2, x::backAt), 61, 150);
         BurdenHouse y = Sentences.withHearth();

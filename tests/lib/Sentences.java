@@ -29,7 +29,7 @@ final class Sentences {
     private static final String EDGES_OF_TERMS = "-?\\d+ \\.\\. \\d+|\\bat (?:most|least|first)\\b|\\bcut\\b|\\b(?:above|below)\\b|\\bby 0\\b|\\bwrap\\b"
         + "|\\bwithout\\b|\\bwhatever\\b|\\bas far as\\b|\\bnothing\\b|\\blost\\b|\\bninth\\b|\\bmore than\\b|\\bnot all 0\\b|\\bgoes on\\b|\\bneeds\\b"
         + "|\\bMISSING\\b|\\bNO NUMBER\\b|\\bagain and again\\b|\\btoo soon\\b|\\blike ones\\b|\\bseveral\\b|\\bor more\\b|\\bfull HOURS\\b|\\bnone\\b"
-        + "|\\bas it (?:was|is) then\\b|\\bneither\\b|\\bno longer\\b|\\bany more\\b|\\bnot lower\\b|\\bWithin\\b|\\bwithin two\\b|NOTHING:|INDEX:|SIZE:|KIND:";
+        + "|\\bas it (?:was|is) then\\b|\\bneither\\b|\\bany more\\b|\\bnot lower\\b|\\bwithin two\\b|NOTHING:|INDEX:|SIZE:|KIND:";
     /** What names an edge in the promises. */
     private static final String EDGES_OF_PROMISES = "\\b(?:BAD|NO|FULL|NONE|NOTHING|INDEX|SIZE)\\b|KIND:|-?\\d+ \\.\\. -?\\d+|\\bn any\\b|\\b16 bits\\b"
         + "|\\b(?:above|below)\\b|\\bdoes not matter\\b|\\bas far as\\b|\\bwhatever\\b|\\bno BINS\\b|\\bfive digits\\b|\\bB not\\b";
@@ -101,6 +101,21 @@ final class Sentences {
         x.run(60);
         row("hearth", hearth(x), 90, 35, 75, 214);
         due("all is eaten", x.count(2), 0);
+        return x;
+    }
+
+    /** A hearth of 9999 IRON and more: ORE is charged ahead of every second hour. */
+    static BurdenHouse withMuchIron() {
+        BurdenHouse x = withBin(1, 9900, 9999);
+        x.turns(0, 11111);
+        x.rule(0, 999);
+        x.rule(1, 999);
+        for (int i = 0; i < 16; i++) {
+            x.charge(0, 999);
+            x.fill(0, 999);
+            x.run(2);
+        }
+        due("there is much iron", x.hearth(0) >= 9999 ? 1 : 0, 1);
         return x;
     }
 
